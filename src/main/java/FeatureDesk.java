@@ -830,19 +830,19 @@ public final class FeatureDesk {
     private int answerOne(int feature, int place) {
         answers.begin();
         decide(desk, answers, place, feature, 0);
-        return answers.variants[feature];
+        return answers.variantOf(feature);
     }
 
     private int answerInTrial(int feature, int place) {
         trialAnswers.begin();
         decide(trial, trialAnswers, place, feature, 0);
-        return trialAnswers.variants[feature];
+        return trialAnswers.variantOf(feature);
     }
 
     private int askInTruth(int feature, int place) {
         int variant = answerOne(feature, place);
         Feature asked = desk.features[feature];
-        asked.counts[variant]++;
+        asked.count(variant);
         desk.asked++;
         boolean byRule = answers.reasons[feature] == BY_RULE;
         if (asked.sticky == 1 && byRule && variant != 0 && asked.isShared(answers.numbers[feature])) {
@@ -955,7 +955,7 @@ public final class FeatureDesk {
      * there are features.
      */
     private static void decide(Desk desk, Answers answers, int place, int feature, int depth) {
-        if (depth >= MOST_FEATURES || answers.knows(feature)) {
+        if (depth >= MOST_FEATURES || feature < 0 || feature >= MOST_FEATURES || answers.knows(feature)) {
             return;
         }
         Feature f = desk.features[feature];
@@ -970,7 +970,7 @@ public final class FeatureDesk {
         for (int i = 0; i < f.needCount; i++) {
             int other = f.needFeatures[i];
             decide(desk, answers, place, other, depth + 1);
-            if (answers.variants[other] != f.needVariants[i]) {
+            if (answers.variantOf(other) != f.needVariants[i]) {
                 answers.put(feature, 0, BY_NEED, other);
                 return;
             }
@@ -1119,7 +1119,7 @@ public final class FeatureDesk {
             for (int i = 0; i <= node; i++) {
                 switch (kinds[i]) {
                     case NOT:
-                        truths[i] = !truths[x[i]];
+                        truths[i] = !truthAt(x[i]);
                         break;
                     case TEST:
                         truths[i] = isTestSo(digitOf(attributes, x[i]), signs[i], y[i]);
@@ -1128,10 +1128,10 @@ public final class FeatureDesk {
                         truths[i] = key >= x[i] && key <= y[i];
                         break;
                     case BOTH:
-                        truths[i] = truths[x[i]] && truths[y[i]];
+                        truths[i] = truthAt(x[i]) && truthAt(y[i]);
                         break;
                     case EITHER:
-                        truths[i] = truths[x[i]] || truths[y[i]];
+                        truths[i] = truthAt(x[i]) || truthAt(y[i]);
                         break;
                     default:
                         truths[i] = true;
@@ -1139,6 +1139,10 @@ public final class FeatureDesk {
                 }
             }
             return truths[node];
+        }
+
+        private boolean truthAt(int node) {
+            return node >= 0 && node < truths.length && truths[node];
         }
 
         private static boolean isTestSo(int value, int sign, int digit) {
@@ -1624,6 +1628,9 @@ public final class FeatureDesk {
         }
 
         void addNeed(int other, int variant) {
+            if (needCount >= MOST_NEEDS) {
+                return;
+            }
             needFeatures[needCount] = other;
             needVariants[needCount] = variant;
             needCount++;
@@ -1636,6 +1643,12 @@ public final class FeatureDesk {
             ruleCount--;
         }
 
+        void count(int variant) {
+            if (variant >= 0 && variant <= MOST_VARIANTS) {
+                counts[variant]++;
+            }
+        }
+
         void removePerson(int place) {
             removeFrom(overrides, place);
             removeFrom(kept, place);
@@ -1646,10 +1659,12 @@ public final class FeatureDesk {
         }
 
         private static void removeFrom(int[] row, int place) {
-            for (int i = place; i + 1 < row.length; i++) {
+            for (int i = Math.max(0, place); i + 1 < row.length; i++) {
                 row[i] = row[i + 1];
             }
-            row[row.length - 1] = NONE;
+            if (row.length > 0) {
+                row[row.length - 1] = NONE;
+            }
         }
     }
 
@@ -1676,6 +1691,9 @@ public final class FeatureDesk {
         }
 
         void add(int key, int newAttributes) {
+            if (count >= MOST_PERSONS) {
+                return;
+            }
             keys[count] = key;
             attributes[count] = newAttributes;
             count++;
@@ -1707,6 +1725,9 @@ public final class FeatureDesk {
         }
 
         void add(int time, int feature, int rule, int variant, int part) {
+            if (count >= MOST_STEPS) {
+                return;
+            }
             times[count] = time;
             features[count] = feature;
             rules[count] = rule;
@@ -1888,6 +1909,10 @@ public final class FeatureDesk {
 
         boolean knows(int feature) {
             return hasBit(known, feature);
+        }
+
+        int variantOf(int feature) {
+            return feature >= 0 && feature < MOST_FEATURES ? variants[feature] : NONE;
         }
 
         void put(int feature, int variant, int reason, int number) {

@@ -1,6 +1,7 @@
 import java.lang.reflect.InvocationTargetException;
 import java.lang.reflect.Method;
 import java.util.ArrayList;
+import java.util.Arrays;
 import java.util.List;
 import java.util.Random;
 
@@ -28,8 +29,10 @@ public final class ModelTest {
         "kept feature key", "forget feature", "spelled feature rule place", "spelled feature rule place",
         "spelled feature rule place", "featureOf feature what10", "featureOf feature what10", "judge feature shelf little",
         "judge feature shelf little", "days days", "days days", "seed int", "image", "back", "status what17", "status what17"};
-    private static final int[] KEYS = {0, 1, 2, 3, 4, 5, 6, 7, 8, 9, 11, 17, 42, 99, 100, 127, 128, 200, 255, 256, 905, 1000, 4711,
+    private static final int[] EDGES = {0, 332, 333, 665, 666, 998, 999};
+    private static final int[] SOME_KEYS = {0, 1, 2, 3, 4, 5, 6, 7, 8, 9, 11, 17, 42, 99, 100, 127, 128, 200, 255, 256, 905, 1000, 4711,
         32767, 65536, 99999, 100000, 123456, 500000, 777777, 999998, 999999};
+    private static final int[] KEYS = withEdges();
     private static final int[] ODD = {-1, -2, Integer.MIN_VALUE, Integer.MAX_VALUE, 1000000, 1000001, 10000, 1000, 334, 256, 201, 61,
         41, 25, 24, 21, 18, 13, 12, 11, 10, 9, 8, 7, 6, 5, 4, 3};
     private static final int MOST_CALLS = 512;
@@ -41,12 +44,14 @@ public final class ModelTest {
     /** How often something odd is drawn, one of so many; and how many persons and features the run is about. */
     private final int odds;
     private final int keys;
+    private final int first;
     private boolean wrong = false;
 
     private ModelTest(long run) {
         random = new Random(run);
         odds = 8 + random.nextInt(40);
-        keys = 3 + random.nextInt(KEYS.length - 3);
+        keys = 3 + random.nextInt(30);
+        first = random.nextInt(KEYS.length - keys);
     }
 
     public static void main(String[] args) {
@@ -60,6 +65,22 @@ public final class ModelTest {
             }
         }
         System.out.println(runs + " drawn runs answer as the model does");
+    }
+
+    /** Beside some keys, the first ones whose buckets are at the edges of parts, of the first four features. */
+    private static int[] withEdges() {
+        int[] all = Arrays.copyOf(SOME_KEYS, SOME_KEYS.length + 4 * EDGES.length);
+        int at = SOME_KEYS.length;
+        for (int salt = 1; salt <= 4; salt++) {
+            for (int edge : EDGES) {
+                int key = 0;
+                while (Model.bucketOf(salt, key) != edge) {
+                    key++;
+                }
+                all[at++] = key;
+            }
+        }
+        return all;
     }
 
     private void run() {
@@ -78,7 +99,7 @@ public final class ModelTest {
         if (random.nextInt(10) == 0) {
             return;
         }
-        for (int i = random.nextInt(26); i >= 0; i--) {
+        for (int i = random.nextInt(random.nextInt(2) == 0 ? 26 : 60); i >= 0; i--) {
             draw("person key attributes");
         }
         for (int i = random.nextInt(13); i >= 0; i--) {
@@ -128,7 +149,7 @@ public final class ModelTest {
             case 1:
                 return "" + "abcd".charAt(random.nextInt(4)) + "<=>".charAt(random.nextInt(3)) + random.nextInt(10);
             case 2:
-                int n = KEYS[random.nextInt(keys)];
+                int n = KEYS[first + random.nextInt(keys)];
                 int m = Math.min(999999, n + random.nextInt(random.nextInt(2) == 0 ? 10 : 500000));
                 return random.nextInt(3) == 0 ? String.format("#%06d-%06d", n, m) : "#" + n + "-" + m;
             case 3:
@@ -190,7 +211,7 @@ public final class ModelTest {
             case "letter":
                 return 33 + random.nextInt(93);
             case "key":
-                return KEYS[random.nextInt(keys)];
+                return KEYS[first + random.nextInt(keys)];
             case "attributes":
                 return random.nextInt(10000);
             case "person":

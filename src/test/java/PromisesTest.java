@@ -205,6 +205,8 @@ public final class PromisesTest {
         due("element", x.element(0, 1), Long.MIN_VALUE);
         due("none", x.element(0, 2), 0);
         due("none", x.element(0, -1), 0);
+        x.row(2, 3, 40);
+        due("none behind the longest row", x.element(2, 40), 0);
         due("no row", x.element(1, 0), 0);
         due("no shelf", x.element(8, 0), 0);
         due("no shelf", x.element(LOW, HIGH), 0);
@@ -265,6 +267,14 @@ public final class PromisesTest {
         due("no rule", x.show(3, 0, -1, 0), BAD);
         due("no feature", x.show(3, 1, 0, 0), BAD);
         due("no feature", x.show(3, -2, 0, 0), BAD);
+        x.row(4, 2, 3);
+        x.set(4, 1, 7);
+        due("where a row was", x.show(4, 0, 0, 0), 1);
+        due("holds", x.holds(4), 13);
+        due("no row now", x.element(4, 1), 0);
+        due("no row now", x.set(4, 1, 1), OTHER);
+        due("says", x.says(4, 3), 8);
+        x.show(4, NONE, 0, 0);
         due("no shelf", x.show(8, 0, 0, 0), BAD);
         due("no shelf", x.show(-1, NONE, 0, 0), BAD);
         rule(x, 0, "*:1");
@@ -315,6 +325,17 @@ public final class PromisesTest {
         due("of how many", x.says(5, 0), 3);
         x.gone(20);
         due("of how many now", x.says(5, 0), 2);
+        FeatureDesk y = persons(4);
+        y.feature(1);
+        rule(y, 0, "#1-3&#2-4:1");
+        rule(y, 0, "#1-1|#1-4:1");
+        y.show(0, 0, 0, 0);
+        y.show(1, 0, 1, 0);
+        due("one of both", y.says(0, 7), 2);
+        due("of how many both", y.says(1, 8), 1);
+        rule(y, 0, "#1-4|#1-1:1");
+        y.show(1, 0, 2, 0);
+        due("of how many both", y.says(1, 8), 1);
         x.row(6, 0, 4);
         due("a row", x.says(6, 0), OTHER);
         due("nothing", x.says(7, 0), NOTHING);
@@ -408,6 +429,30 @@ public final class PromisesTest {
         due("what is kept for it goes along", x.featureOf(0, 9), 1);
         due("gone twice", x.gone(1), BAD);
         due("no key", x.gone(-1), BAD);
+        FeatureDesk y = persons(24);
+        y.feature(1);
+        y.override(0, 24, 1);
+        y.override(0, 23, 0);
+        y.person(3, 33);
+        due("gone", y.gone(1), 23);
+        due("the last ones' overrides", y.by(0, 1), 0x600000);
+        due("the last one's override", y.would(0, 24, 0), 1);
+        due("attributes come nearer, too", y.attributes(3), 33);
+        due("attributes come nearer, too", y.attributes(2), 0);
+        due("gone", y.gone(24), 22);
+        due("overrides", y.featureOf(0, 6), 1);
+        due("one more", y.person(77, 0), 23);
+        due("has no override", y.override(0, 77, NONE), NONE);
+        FeatureDesk z = new FeatureDesk();
+        for (int key = 0; key < 5; key++) {
+            z.person(key, 10 * key);
+        }
+        z.gone(2);
+        for (int i = 0; i < 4; i++) {
+            int key = i < 2 ? i : i + 1;
+            due("KEY", z.personOf(i), key);
+            due("ATTRIBUTES", z.attributes(key), 10 * key);
+        }
         due("comes again", x.person(1, 0), 3);
         due("behind the others", x.personOf(2), 1);
         due("with nothing kept", x.kept(0, 1), NONE);
@@ -589,6 +634,10 @@ public final class PromisesTest {
         dueRule(x, 0, "#7-7:3", 1);
         dueRule(x, 1, "*%001,00,0", 0);
         dueRule(x, 1, "!!!a<0&(b=9|c>5&d=0):0", 1);
+        dueRule(x, 0, "((!!*&*|(a=1&!", -514);
+        dueRule(x, 0, "*&*)", -503);
+        dueRule(x, 0, "!#1-2&c=1|*:1", 2);
+        due("nothing is left of the faulty ones", spelling(x, 0, 2).equals("!#1-2&c=1|*:1") ? 1 : 0, 1);
         x.feed(200);
         due("a byte above 127", x.rule(0), -500);
         feed(x, "*");
@@ -625,6 +674,16 @@ public final class PromisesTest {
         due("none left", x.drop(0, 0), BAD);
         rule(x, 0, "*%9,0,0");
         due("a new one has its own parts", x.part(0, 0, 3, 1), 0);
+        x.drop(0, 0);
+        for (int i = 0; i < 6; i++) {
+            rule(x, 0, "*%" + i + ",0,0");
+        }
+        due("the second of six", x.drop(0, 1), 5);
+        int[] rest = {0, 2, 3, 4, 5};
+        for (int i = 0; i < 5; i++) {
+            due("PART", x.part(0, i, 1, rest[i]), rest[i]);
+        }
+        due("a sixth again", rule(x, 0, "*:1"), 5);
     }
 
     private static void promise20() {
@@ -657,6 +716,19 @@ public final class PromisesTest {
         due("variant 1 in 0 to 88", y.by(0, 6) + y.reach(0, 1), 8);
         due("variant 2 in 333 to 499", y.would(0, 4, 0), 2);
         due("variant 3 in 666 to 968", y.would(0, 999999, 0), 3);
+        int[] edges = {662, 527, 1572, 316, 1023, 248, 929};
+        int[] variants = {1, 1, 2, 2, 3, 3, 0};
+        y.part(0, 0, 1, 333);
+        y.part(0, 0, 2, 333);
+        y.part(0, 0, 3, 333);
+        for (int i = 0; i < edges.length; i++) {
+            y.person(edges[i], 0);
+            due("at the edge, " + y.bucket(1, edges[i]), y.would(0, edges[i], 0), variants[i]);
+        }
+        y.part(0, 0, 2, 0);
+        due("a part of 0", y.would(0, 1572, 0), 0);
+        y.part(0, 0, 2, 1);
+        due("a part of 1", y.would(0, 1572, 0), 2);
         y.part(0, 0, 2, 166);
         y.part(0, 0, 3, 302);
         due("499 is out", y.would(0, 4, 0), 0);
@@ -848,8 +920,22 @@ public final class PromisesTest {
         due("9", x.part(0, 0, 2, 0), 9);
         due("NOW", x.status(5), 1004);
         due("steps", x.status(4), 0);
+        x.feature(3);
+        for (int i = 0; i < 3; i++) {
+            rule(x, 1, "*%0,0,0");
+        }
+        x.step(1004, 1, 1, 2, 22);
+        x.step(1004, 1, 2, 3, 33);
+        x.step(1004, 1, 0, 1, 11);
+        x.step(1006, 0, 0, 1, 1);
+        due("of each feature, rule and variant its own", x.pass(0), 3);
+        for (int i = 0; i < 3; i++) {
+            due("PART", x.part(1, i, i + 1, 0), 11 * (i + 1));
+        }
+        due("the one behind them", x.pass(2), 1);
+        due("PART", x.part(0, 0, 1, 0), 1);
         x.step(1010, 0, 0, 1, 50);
-        x.step(1005, 0, 0, 1, 60);
+        x.step(1007, 0, 0, 1, 60);
         due("both, by times", x.pass(20), 2);
         due("50", x.part(0, 0, 1, 0), 50);
         x.step(1030, 0, 1, 1, 70);
@@ -857,6 +943,7 @@ public final class PromisesTest {
         rule(x, 0, "*%1,0,0");
         due("steps stay as told", x.pass(20), 1);
         due("70, of the rule that is there then", x.part(0, 1, 1, 0), 70);
+        due("NOW", x.status(5), 1046);
     }
 
     private static void askToCounted() {
@@ -1050,6 +1137,9 @@ public final class PromisesTest {
         due("1", x.counted(0, 1), 0);
         due("2", x.counted(0, 2), 1);
         due("of another", x.counted(1, 3), 0);
+        x.tell(1, 2, 3);
+        x.ask(1, 1);
+        due("the greatest", x.counted(1, 3), 1);
         due("no variant", x.counted(0, 3), BAD);
         due("no variant", x.counted(0, -1), BAD);
         due("no feature", x.counted(2, 0), BAD);
@@ -1096,6 +1186,25 @@ public final class PromisesTest {
             due("so " + texts[i], x.so(0, 0), want[i]);
             x.drop(0, 0);
         }
+        int[] digits = {0, 999, 1000, 9, 10, 99, 100, 9899, 9900, 9989, 9990, 9999};
+        FeatureDesk y = new FeatureDesk();
+        y.feature(1);
+        for (int i = 0; i < digits.length; i++) {
+            y.person(i, digits[i]);
+        }
+        String[] tests = {"a=0", "a=1", "a=9", "b=0", "b=1", "b=8", "b=9", "c=0", "c=1", "c=8", "c=9", "d=0", "d=9", "a>8", "a<1"};
+        for (String test : tests) {
+            int bits = 0;
+            for (int i = 0; i < digits.length; i++) {
+                int digit = String.format("%04d", digits[i]).charAt(test.charAt(0) - 'a') - '0';
+                int told = test.charAt(2) - '0';
+                boolean so = test.charAt(1) == '=' ? digit == told : test.charAt(1) == '<' ? digit < told : digit > told;
+                bits |= so ? 1 << i : 0;
+            }
+            rule(y, 0, test + ":1");
+            due("so " + test, y.so(0, 0), bits);
+            y.drop(0, 0);
+        }
         rule(x, 0, "*:1");
         x.tell(0, 0, 1);
         due("the condition alone", x.so(0, 0), 7);
@@ -1137,6 +1246,31 @@ public final class PromisesTest {
         due("fixed", x.grow(0, 1, 1, 1), STUCK);
         due("bad, ahead of fixed", x.grow(0, 1, 1, 25), BAD);
         due("NONE isn't refused", x.status(12), 7);
+        FeatureDesk y = new FeatureDesk();
+        y.feature(3);
+        rule(y, 0, "*%7,8,9");
+        int[] edges = {662, 527, 1572, 316, 1023, 248, 929};
+        for (int key : edges) {
+            y.person(key, 0);
+        }
+        for (int variant = 1; variant <= 3; variant++) {
+            due("bucket 0 of it", y.grow(0, 0, variant, 1), 1);
+            due("bucket 332 of it", y.grow(0, 0, variant, 2), 333);
+            due("no more", y.grow(0, 0, variant, 3), NONE);
+        }
+        FeatureDesk all = persons(24);
+        all.feature(1);
+        rule(all, 0, "*%0,0,0");
+        all.tell(0, 2, 1);
+        int inPart = 0;
+        for (int key = 1; key <= 24; key++) {
+            inPart += all.bucket(1, key) < 333 ? 1 : 0;
+        }
+        due("all that may be", all.grow(0, 0, 1, inPart) > 0 ? 1 : 0, 1);
+        due("one more", all.grow(0, 0, 1, inPart + 1), NONE);
+        rule(all, 0, "*:1");
+        all.drop(0, 0);
+        due("reached by all", all.reach(0, 1), 24);
         FeatureDesk none = new FeatureDesk();
         none.feature(1);
         rule(none, 0, "*%5,0,0");
@@ -1169,6 +1303,14 @@ public final class PromisesTest {
         due("no feature", x.moved(1, 0, 1, 1), BAD);
         due("fixed", x.moved(0, 1, 1, 1), STUCK);
         due("bad, ahead of fixed", x.moved(0, 1, 1, 334), BAD);
+        FeatureDesk all = persons(24);
+        all.feature(1);
+        rule(all, 0, "*%0,0,0");
+        int bits = 0;
+        for (int key = 1; key <= 24; key++) {
+            bits |= all.bucket(1, key) < 333 ? 1 << key - 1 : 0;
+        }
+        due("of all", all.moved(0, 0, 1, 333), bits);
     }
 
     private static void promise37() {
@@ -1197,6 +1339,15 @@ public final class PromisesTest {
         none.feature(1);
         none.tell(0, 2, 1);
         due("without persons", none.shakes(0), 0);
+        FeatureDesk all = persons(24);
+        for (int i = 0; i < 12; i++) {
+            all.feature(1);
+        }
+        rule(all, 11, "#1-1:1");
+        due("the first person alone", all.shakes(11), 1 << 11);
+        all.drop(11, 0);
+        rule(all, 11, "#24-24:1");
+        due("the last person alone", all.shakes(11), 1 << 11);
     }
 
     private static void promise38() {
@@ -1209,6 +1360,10 @@ public final class PromisesTest {
         due("overlap", x.overlap(0, 1), 2);
         due("the other way", x.overlap(1, 0), 2);
         due("with itself", x.overlap(0, 0), 3);
+        FeatureDesk all = persons(24);
+        all.feature(1);
+        all.tell(0, 2, 1);
+        due("of all", all.overlap(0, 0), 0xffffff);
         due("no feature", x.overlap(0, 2), BAD);
         due("no feature", x.overlap(-1, 0), BAD);
     }
@@ -1220,6 +1375,9 @@ public final class PromisesTest {
             x.feature(1);
         }
         due("none", x.needed(0), 0);
+        x.needs(0, 1, 0);
+        x.needs(5, 0, 0);
+        due("by the first", x.needed(5), 3);
         x.needs(11, 3, 0);
         x.needs(11, 4, 0);
         x.needs(3, 7, 1);
@@ -1285,6 +1443,9 @@ public final class PromisesTest {
         dueSpelling(3, "((*))%000,007,020", "*%0,7,20");
         dueSpelling(1, "#000000-00100:0", "#0-100:0");
         dueSpelling(1, "!(!(!(a<0))):1", "!!!a<0:1");
+        dueSpelling(1, "#9-10|#89-99|#100-999:1", "#9-10|#89-99|#100-999:1");
+        dueSpelling(1, "#1000-9999|#10000-99999|#100000-999999:1", "#1000-9999|#10000-99999|#100000-999999:1");
+        dueSpelling(1, "#000000-000000|#000900-009000:1", "#0-0|#900-9000:1");
         dueSpelling(1, "!(a<0&b>9):1", "!(a<0&b>9):1");
         dueSpelling(1, "!(a<0|b>9):1", "!(a<0|b>9):1");
         dueSpelling(1, "(a=1&b=2)&c=3:1", "a=1&b=2&c=3:1");
@@ -1392,9 +1553,13 @@ public final class PromisesTest {
         due("no shelf", x.judge(0, 8, 0), BAD);
         due("no feature", x.judge(1, 0, 0), BAD);
         due("nothing", x.judge(0, 2, 20), NOTHING);
+        due("too many, ahead of nothing", x.judge(0, 2, 21), BAD);
+        x.row(3, 2, 2);
+        x.set(3, 0, 99);
+        due("no person in the first", x.judge(0, 3, 1), STUCK);
         x.show(2, 0, 0, 0);
         due("a condition", x.judge(0, 2, 20), OTHER);
-        due("NONE isn't refused", x.status(12), 5);
+        due("NONE isn't refused", x.status(12), 6);
         due("nothing is counted", x.status(7), 0);
     }
 
@@ -1490,7 +1655,7 @@ public final class PromisesTest {
 
     private static FeatureDesk furnished() {
         FeatureDesk x = persons(3);
-        x.feature(2);
+        x.feature(3);
         x.feature(1);
         x.tell(0, 1, 1);
         rule(x, 0, "a=0&!b=1%333,100,0");
@@ -1519,7 +1684,10 @@ public final class PromisesTest {
                 all.append(' ').append(x.would(f, x.personOf(i), 1)).append(' ').append(x.kept(f, x.personOf(i)));
                 all.append(' ').append(x.attributes(x.personOf(i))).append(' ').append(x.later(f, x.personOf(i), 8));
             }
-            all.append(' ').append(x.counted(f, 0)).append(' ').append(x.counted(f, 1)).append(' ').append(x.needed(f));
+            for (int variant = 0; variant <= x.featureOf(f, 0); variant++) {
+                all.append(' ').append(x.counted(f, variant));
+            }
+            all.append(' ').append(x.needed(f));
         }
         return all.append(spelling(x, 0, 0)).append(spelling(x, 0, 1)).toString();
     }
@@ -1532,6 +1700,7 @@ public final class PromisesTest {
         x.row(0, 2, 2);
         due("image", x.image(), 1);
         x.gone(1);
+        x.person(8, 8);
         x.person(9, 9);
         x.person(2, 7);
         x.feature(3);
@@ -1546,6 +1715,8 @@ public final class PromisesTest {
         x.layer(1, 2, 7, 8);
         x.days(20);
         x.forget(0);
+        x.override(0, 9, 3);
+        x.ask(0, 9);
         x.seed(3);
         x.pass(1000);
         x.feed('!');
@@ -1614,5 +1785,29 @@ public final class PromisesTest {
         due("another what", x.status(HIGH), NONE);
         x.show(4, NONE, 0, 0);
         due("shelves", x.status(10), 1);
+        FeatureDesk all = persons(2);
+        for (int i = 0; i < 12; i++) {
+            all.feature(1);
+            all.tell(i, 1, 1);
+            rule(all, i, "*%333,0,0");
+            all.override(i, 2, 1);
+            all.layer(i, 0, 80 * i, 80 * i + 79);
+            all.layer(i, NONE, 0, 0);
+        }
+        all.needs(11, 0, 1);
+        all.needs(0, 1, 1);
+        due("rules of all", all.status(2), 12);
+        due("needs of all", all.status(3), 2);
+        all.free(11);
+        all.free(0);
+        int kept = 0;
+        for (int i = 0; i < 12; i++) {
+            kept += all.ask(i, 1);
+        }
+        due("kept in all", all.status(6), kept);
+        due("of the first, too", all.kept(0, 1), 1);
+        due("gone, of twelve features", all.gone(1), 1);
+        due("kept in all", all.status(6), 0);
+        due("overrides come nearer", all.by(11, 1), 1);
     }
 }
