@@ -55,7 +55,7 @@ public final class ModelTest {
     }
 
     public static void main(String[] args) {
-        int runs = args.length > 0 ? Integer.parseInt(args[0]) : 3000;
+        int runs = args.length > 0 ? Integer.parseInt(args[0]) : 8000;
         for (int run = 0; run < runs; run++) {
             ModelTest test = new ModelTest(run);
             test.run();
