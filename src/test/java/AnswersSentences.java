@@ -330,6 +330,17 @@ final class AnswersSentences extends Sentences {
             x.due("person(" + gone + ", 0)", 3).due("kept(0, " + gone + ")", NONE).due("kept(11, " + gone + ")", NONE);
             x.due("would(1, " + gone + ", 1)", 7).due("would(11, " + gone + ", 1)", 6);
         }
+        oneOfTwentyFourGoes();
+    }
+
+    /** With as many as there may be: the last one's come nearer, and stay with it alone. */
+    private static void oneOfTwentyFourGoes() {
+        int last = keyIn(1, 700);
+        Tried x = persons(23).does("person(" + last + ", 0)", "feature(3)", "feature(3)", "tell(0, 1, 1)").rule(0, "*%333,333,333", 0);
+        x.due("ask(0, " + last + ")", 3).does("override(1, " + last + ", 2)", "override(1, 23, 1)", "gone(5)").due("kept(0, " + last + ")", 3);
+        x.due("by(0, 5)", 1 << 22).due("by(1, 1)", 3 << 21).due("person(5, 0)", 24).due("kept(0, 5)", NONE).due("would(1, 5, 1)", 7);
+        x.due("would(1, " + last + ", 0)", 2).due("would(1, 23, 0)", 1).due("featureOf(1, 6)", 2).due("status(6)", 1);
+        x.due("gone(" + last + ")", 23).due("person(" + last + ", 0)", 24).due("kept(0, " + last + ")", NONE).due("by(1, 1)", 1 << 21);
     }
 
     private static void ruleGoes() {

@@ -173,7 +173,8 @@ final class PromiseSentences extends Sentences {
         }
         x.due("show(7, 0, 0, 0)", 1).due("show(0, -1, 0, 0)", 1).due("holds(0)", NONE).due("show(0, -1, 5, 2)", 1).due("show(7, -1, 0, 0)", 1);
         x.due("holds(7)", NONE).does("row(7, 0, 1)").due("show(7, -1, 0, 0)", 1).due("holds(7)", NONE).does("row(7, 0, 1)");
-        x.due("show(7, 0, 5, 0)", 1).due("holds(7)", 16).refuses("set(7, 0, 1)", OTHER);
+        x.does("set(7, 0, 9)").due("show(7, 0, 5, 0)", 1).due("holds(7)", 16).refuses("set(7, 0, 1)", OTHER);
+        x.due("element(7, 0)", 0).due("says(7, 6)", 2).refuses("copy(7, 7, 0, 0, 1)", OTHER);
         sentence("BAD SHELF, feature, rule, part (also where there is none).");
         x.refuses("show(8, 0, 0, 0)", BAD).refuses("show(-1, 0, 0, 0)", BAD).refuses("show(8, -1, 0, 0)", BAD).refuses("show(-1, -1, 0, 0)", BAD);
         x.refuses("show(7, 2, 0, 0)", BAD).refuses("show(7, -2, 0, 0)", BAD).refuses("show(7, 1, 0, 0)", BAD).refuses("show(7, 0, 6, 0)", BAD);

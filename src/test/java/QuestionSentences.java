@@ -213,6 +213,8 @@ final class QuestionSentences extends Sentences {
         Tried x = atEdges("*%0,0,0").does("override(0, " + keyIn(1, 999) + ", 1)").due("grow(0, 0, 1, 1)", 0).due("grow(0, 0, 1, 2)", 1);
         x.due("grow(0, 0, 1, 5)", 333).due("grow(0, 0, 1, 6)", NONE).does("override(0, " + keyIn(1, 0) + ", 2)").due("grow(0, 0, 1, 2)", 2);
         x.due("grow(0, 0, 1, 4)", 333).due("grow(0, 0, 1, 5)", NONE).does("tell(0, 0, 1)").due("grow(0, 0, 1, 1)", 0).due("grow(0, 0, 1, 2)", NONE);
+        Tried then = atEdges("*%0,0,0").due("grow(0, 0, 1, 1)", 1).does("override(0, " + keyIn(1, 999) + ", 1)").due("grow(0, 0, 1, 1)", 0);
+        then.does("override(0, " + keyIn(1, 0) + ", 1)").due("grow(0, 0, 1, 2)", 0).due("grow(0, 0, 1, 3)", 2);
         Tried behind = atEdges("#0-999999:0").rule(0, "*%0,0,0", 1).due("grow(0, 1, 1, 0)", 0).due("grow(0, 1, 1, 1)", NONE);
         new Tried().does("feature(1)").rule(0, "*%9,0,0", 0).due("grow(0, 0, 1, 0)", 0).due("grow(0, 0, 1, 1)", NONE);
         // All 24 of one bucket.

@@ -429,6 +429,11 @@ final class TermsSentences extends Sentences {
         x.does("show(0, 0, 0, 1)").due("holds(0)", first).does("show(1, 0, 0, 2)").due("holds(1)", second);
     }
 
+    /** For whom of the persons 1 to 4 the condition is so. */
+    private static void dueSo(String condition, int bits) {
+        persons(4).does("feature(1)").rule(0, condition + ":1", 0).due("so(0, 0)", bits);
+    }
+
     private static void eithers() {
         sentence("COND: one or more BOTHS with | between (EITHER, from the left).");
         dueParts("a<1|*", 15, 14);
@@ -437,6 +442,11 @@ final class TermsSentences extends Sentences {
         dueParts("*|*&*", 14, 17);
         dueParts("*&*|*", 17, 14);
         dueParts("*&*|!*|*|#1-2&*", 18, 17);
+        dueSo("#1-2|#2-3", 7);
+        dueSo("#1-1|#3-3|#4-4", 13);
+        dueSo("!*|!*", 0);
+        dueSo("!*|*", 15);
+        dueSo("#1-2|#2-3&#3-4", 7);
         Tried x = new Tried().does("feature(1)").rule(0, "*|a<1|#1-2|!*:1", 0).dueSpelling(0, 0, "*|a<1|#1-2|!*:1");
         x.refusesRule(0, "|*:1", -500).refusesRule(0, "*|:1", -502).refusesRule(0, "*||*:1", -502).refusesRule(0, ":1", -500);
     }
@@ -448,6 +458,11 @@ final class TermsSentences extends Sentences {
         dueParts("*&(a<1&#1-2)", 14, 17);
         dueParts("(*|*)&*", 18, 14);
         dueParts("!*&*", 13, 14);
+        dueSo("#1-3&#2-4", 6);
+        dueSo("#1-2&#3-4", 0);
+        dueSo("#1-4&#2-4&#1-3", 6);
+        dueSo("*&!*", 0);
+        dueSo("(#1-2|#2-3)&#3-4", 4);
         Tried x = new Tried().does("feature(1)").rule(0, "*&a<1&#1-2&!*:1", 0).dueSpelling(0, 0, "*&a<1&#1-2&!*:1");
         x.refusesRule(0, "&*:1", -500).refusesRule(0, "*&:1", -502).refusesRule(0, "*&&*:1", -502).refusesRule(0, "*&|*:1", -502);
     }
@@ -463,6 +478,11 @@ final class TermsSentences extends Sentences {
             x.does("show(0, 0, 0, 1)").due("holds(0)", fine[i].equals("!!a<0") ? 13 : fine[i].equals("!(*|*)") ? 18
                 : kinds[i] == 13 || kinds[i] == 17 ? 14 : kinds[i]);
         }
+        dueSo("!#2-3", 9);
+        dueSo("!!#2-3", 6);
+        dueSo("!#2-3&#1-2", 1);
+        dueSo("!(#2-3&#1-2)", 13);
+        dueSo("!(#2-3|#1-2)", 8);
         Tried x = new Tried().does("feature(1)");
         x.refusesRule(0, "e<1:1", -500).refusesRule(0, "A<1:1", -500).refusesRule(0, "a-1:1", -501).refusesRule(0, "a<<1:1", -502);
         x.refusesRule(0, "a<:1", -502).refusesRule(0, "a<10:1", -503).refusesRule(0, "!:1", -501).refusesRule(0, "():1", -501);
@@ -527,6 +547,12 @@ final class TermsSentences extends Sentences {
             }
         }
         new Tried().does("feature(3)").refusesRule(0, "", -500).refusesRule(0, "(".repeat(250), -750).refusesRule(0, "*%1,1", -505);
+        // Nothing of what ended too early is left for the next.
+        Tried x = persons(4).does("feature(3)").rule(0, "!(*&!(#1-1|!(", -513).rule(0, "#1-2:1", 0).due("so(0, 0)", 3).dueSpelling(0, 0, "#1-2:1");
+        x.rule(0, "(((!*&*|(", -509).refusesRule(0, "*)", -501).refusesRule(0, "*&*):1", -503).rule(0, "*|*%1,2,3", 1).rule(0, "*%7,8,", -506);
+        x.dueSpelling(0, 1, "*|*%1,2,3").rule(0, "a<1:0", 2).dueSpelling(0, 2, "a<1:0").rule(0, "*%4,5,6", 3).dueSpelling(0, 3, "*%4,5,6");
+        x.rule(0, "*&!", -503).rule(0, "#3-4:2", 4).dueSpelling(0, 4, "#3-4:2").due("so(0, 4)", 12);
+        x.rule(0, "*|#1-1&", -507).rule(0, "#2-3:2", 5).dueSpelling(0, 5, "#2-3:2").due("so(0, 5)", 6);
     }
 
     private static void dueSpelled(String letters, String want) {
